@@ -275,7 +275,8 @@ public final class WhoBacks {
         int bestPlace = 0;
         int bestCost = ABOVE_ALL;
         for (int i = 0; i < s.size && i < MOST_ELEMENTS; i++) {
-            int cost = costByOneRule(s.values[i], figure);
+            ruleAllInMind(s.values[i], figure);
+            int cost = costInMind();
             if (cost < bestCost) {
                 bestCost = cost;
                 bestPlace = i;
@@ -293,7 +294,8 @@ public final class WhoBacks {
             for (int figure = 0; figure <= 4; figure++) {
                 int words = wordsOf(kind, figure);
                 if (words >= fewest) continue;
-                costByOneRule(kind, figure);
+                ruleAllInMind(kind, figure);
+                costInMind();
                 if (mind.stands()) continue;
                 fewest = words;
                 answer = 10 * kind + figure;
@@ -309,7 +311,8 @@ public final class WhoBacks {
         int bestFigure = 0;
         int bestCost = ABOVE_ALL;
         for (int figure = 0; figure <= MOST_FIGURE; figure++) {
-            int cost = costByOneRule(HOUR, figure);
+            ruleAllInMind(HOUR, figure);
+            int cost = costInMind();
             if (cost < bestCost) {
                 bestCost = cost;
                 bestFigure = figure;
@@ -333,8 +336,10 @@ public final class WhoBacks {
         if (n < 0 || n > MOST_FIGURE) return LOWER + WRONG;
         if (cannotRun()) return LOWER + NOT_NOW;
         mind.copyFrom(now);
-        int deaf = costByOneRule(BELL, 0);
-        return deaf - costByOneRule(BELL, n);
+        ruleAllInMind(BELL, 0);
+        int deaf = costInMind();
+        ruleAllInMind(BELL, n);
+        return deaf - costInMind();
     }
 
     public int days(int m, int n, int z) {
@@ -499,9 +504,8 @@ public final class WhoBacks {
         return mind.cost();
     }
 
-    private int costByOneRule(int kind, int figure) {
+    private void ruleAllInMind(int kind, int figure) {
         for (int v = 0; v < VILLAGES; v++) mind.road.tellRule(v, kind, figure);
-        return costInMind();
     }
 
     private static boolean areRows(int a, int b, int one, int other) {

@@ -123,7 +123,7 @@ public final class LanguageRules {
         }
         for (String name : calls.keySet()) {
             List<String> longest = deepest(name, calls, new ArrayList<>());
-            if (longest.size() > 8) fault(11, "calls go deeper than eight: " + longest);
+            if (longest.size() > 7) fault(11, "calls go deeper than seven (one less than the rule's eight): " + longest);
         }
     }
 

@@ -169,6 +169,10 @@ public final class PromisesInMind {
         w = Due.of("p2;u0 0;u90 0;u180 0;");
         // 90 is odd by spells of 10, 30 (3), 90 (1); 180 by 20 (9), 60 (3), 100 (1): 40 is even for all
         due.is("up at 0, 90 and 180", w.hours(0), 3);
+        w = Due.of("p2;u65 0;u95 0;");
+        // every spell below 100 minutes stops one of them
+        due.is("up at 65 and 95", w.hours(0), 9);
+        due.is("up at 65 and 95, the cost", w.hours(1), 0);
         due.is("hours(2)", w.hours(2), -1);
         due.is("hours(-1)", w.hours(-1), -1);
         due.is("hours without pieces", noPieces().hours(0), -3);
@@ -198,6 +202,7 @@ public final class PromisesInMind {
     private static void heard() {
         WhoBacks w = Due.of("p3;d0 0;u1 0;d1 0;");
         due.is("hearing makes all stand", w.heard(1), 3 - 1124);
+        due.is("heard(9)", w.heard(9), 3 - 1124);
         due.is("heard(0)", w.heard(0), 0);
         due.is("heard(10)", w.heard(10), -1000000001);
         due.is("heard(-1)", w.heard(-1), -1000000001);

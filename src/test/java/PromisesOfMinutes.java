@@ -277,6 +277,17 @@ public final class PromisesOfMinutes {
         yieldsBy(w, 1, 0, 1, 1, 1, 1, 1, 1, 1, 1);
         yieldsBy(w, 0, 1, 1, 1, 1, 1, 1, 1, 1, 0);
 
+        w = Due.of("p6h2;u0 1;u0 1;d0 1;");
+        w.go(1);
+        // cart 1 at place 0: no hill; cart 0 within: its way falls; cart 2 one spot from its place
+        yieldsBy(w, 1, 2, 2, 2, 1, 2, 2, 1, 2, 1);
+        yieldsBy(w, 2, 1, 2, 2, 1, 2, 2, 1, 2, 1);
+        yieldsBy(w, 0, 2, 2, 2, 2, 2, 2, 2, 2, 0);
+        w = Due.of("p6h1;u0 1;u0 1;d0 1;");
+        w.go(1);
+        yieldsBy(w, 1, 2, 2, 2, 1, 2, 2, 1, 2, 1);
+        yieldsBy(w, 2, 1, 2, 2, 1, 2, 2, 1, 2, 2);
+
         w = Due.of("p4;u0 0w1;d0 1w2;u0 1l;");
         w.go(1);
         // cart 0 can't back: 0 minutes back are the fewest, but the other does
