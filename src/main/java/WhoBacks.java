@@ -25,8 +25,6 @@ public final class WhoBacks {
     private static final int LAST_MINUTE = 999;
     private static final int STILL_MINUTES = 60;
     private static final int COST_OF_STANDING = 1000;
-    /** Above every cost: the first one is always less. */
-    private static final int ABOVE_ALL = 2147483647;
 
     private static final int WRONG = -1;
     private static final int NOT_NOW = -3;
@@ -44,6 +42,7 @@ public final class WhoBacks {
     private final Traffic mind = new Traffic();
     private boolean hasImage;
     private final Shelf[] shelves = new Shelf[SHELVES];
+    private final Least least = new Least();
     private final Reader reader = new Reader();
     private final Passing passing = new Passing();
 
@@ -232,36 +231,26 @@ public final class WhoBacks {
         if (cannotRun()) return NOT_NOW;
         mind.copyFrom(now);
         int varied = Math.min(4, mind.count);
-        int bestDigits = 0;
-        int bestCost = ABOVE_ALL;
+        least.begin();
         for (int digits = 0; digits < 1 << (2 * varied); digits++) {
             for (int k = 0; k < varied; k++) mind.carts[k].late = 5 * ((digits >> (2 * k)) & 3);
-            int cost = costInMind();
-            if (cost < bestCost) {
-                bestCost = cost;
-                bestDigits = digits;
-            }
+            least.offer(digits, costInMind());
         }
-        return what == 0 ? bestDigits : bestCost;
+        return what == 0 ? least.key : least.cost;
     }
 
     public int more(int what) {
         if (what != 0 && what != 1) return WRONG;
         if (cannotRun()) return NOT_NOW;
         mind.copyFrom(now);
-        int bestPlace = NONE;
-        int bestCost = ABOVE_ALL;
+        least.begin();
         for (int place = 1; place < mind.road.pieces && place < MOST_PIECES; place++) {
             if (mind.road.roomOf[place] >= MOST_ROOM) continue;
             mind.road.roomOf[place]++;
-            int cost = costInMind();
+            least.offer(place, costInMind());
             mind.road.roomOf[place]--;
-            if (cost < bestCost) {
-                bestCost = cost;
-                bestPlace = place;
-            }
         }
-        return what == 0 || bestPlace == NONE ? bestPlace : bestCost;
+        return what == 0 ? least.key : least.cost;
     }
 
     public int fit(int d, int figure) {
@@ -272,53 +261,38 @@ public final class WhoBacks {
         if (s.size == 0 || !s.isWithin(0, KINDS - 1)) return NO_PLACE;
         if (cannotRun()) return NOT_NOW;
         mind.copyFrom(now);
-        int bestPlace = 0;
-        int bestCost = ABOVE_ALL;
+        least.begin();
         for (int i = 0; i < s.size && i < MOST_ELEMENTS; i++) {
             ruleAllInMind(s.values[i], figure);
-            int cost = costInMind();
-            if (cost < bestCost) {
-                bestCost = cost;
-                bestPlace = i;
-            }
+            least.offer(i, costInMind());
         }
-        return bestPlace;
+        return least.key;
     }
 
     public int shortest() {
         if (cannotRun()) return NOT_NOW;
         mind.copyFrom(now);
-        int answer = NONE;
-        int fewest = ABOVE_ALL;
+        least.begin();
         for (int kind = 0; kind < KINDS; kind++) {
             for (int figure = 0; figure <= 4; figure++) {
-                int words = wordsOf(kind, figure);
-                if (words >= fewest) continue;
                 ruleAllInMind(kind, figure);
                 costInMind();
-                if (mind.stands()) continue;
-                fewest = words;
-                answer = 10 * kind + figure;
+                if (!mind.stands()) least.offer(10 * kind + figure, wordsOf(kind, figure));
             }
         }
-        return answer;
+        return least.key;
     }
 
     public int hours(int what) {
         if (what != 0 && what != 1) return WRONG;
         if (cannotRun()) return NOT_NOW;
         mind.copyFrom(now);
-        int bestFigure = 0;
-        int bestCost = ABOVE_ALL;
+        least.begin();
         for (int figure = 0; figure <= MOST_FIGURE; figure++) {
             ruleAllInMind(HOUR, figure);
-            int cost = costInMind();
-            if (cost < bestCost) {
-                bestCost = cost;
-                bestFigure = figure;
-            }
+            least.offer(figure, costInMind());
         }
-        return what == 0 ? bestFigure : bestCost;
+        return what == 0 ? least.key : least.cost;
     }
 
     public int stubborn(int cart) {
@@ -530,6 +504,23 @@ public final class WhoBacks {
         if (kind == BEST) throw new UnsupportedOperationException("the best one fails");
         if (kind == TOLD) throw new IllegalArgumentException("the told one fails");
         throw new IllegalStateException("the rule fails");
+    }
+
+    /** Of what is offered the first of least cost; both NONE while nothing was. */
+    private static final class Least {
+        int key;
+        int cost;
+
+        void begin() {
+            key = NONE;
+            cost = NONE;
+        }
+
+        void offer(int newKey, int newCost) {
+            if (key != NONE && newCost >= cost) return;
+            key = newKey;
+            cost = newCost;
+        }
     }
 
     /** A shelf's row is made once with all the elements it may ever have, so that no call makes one. */
