@@ -1,4 +1,4 @@
-/** Promises 9 to 15, and the MINUTE of section 3: each run was gone through by hand. */
+/** Promises 9 to 15, and the MINUTE of section 3: runs gone through by hand, but where told. */
 public final class PromisesOfMinutes {
     private static final Due due = new Due();
 
@@ -170,7 +170,7 @@ public final class PromisesOfMinutes {
     }
 
     private static void minute999() {
-        // carts that go to and fro for ever
+        // carts that go to and fro for ever: found by a search, not by hand
         WhoBacks w = Due.of("p2;p2;p3;x0 23;d7 2lw0;u2 2lw5;d0 3lw0;u1 2w5;d8 1lw3;");
         for (int i = 1; i <= 4; i++) due.is("go(200)", w.go(200), 200 * i);
         due.is("go(198)", w.go(198), 998);
