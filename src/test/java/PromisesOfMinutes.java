@@ -22,29 +22,11 @@ public final class PromisesOfMinutes {
         due.end("PromisesOfMinutes");
     }
 
-    /** The minute of the end, what was backed, waited, done, whether it stands, how often two met. */
-    private static void ends(String text, int... want) {
-        WhoBacks w = Due.of(text);
-        due.is(text + " go(200)", w.go(200), want[0]);
-        for (int what = 0; what <= 5; what++) due.is(text + " state(" + what + ")", w.state(what), want[what]);
-        due.is(text + " go(1) behind its end", w.go(1), -3);
-        due.is(text + " the minute stays", w.state(0), want[0]);
-    }
-
-    /** The spots of a cart behind 1, 2, .. minutes. */
-    private static void goes(String text, int cart, int... spots) {
-        WhoBacks w = Due.of(text);
-        for (int i = 0; i < spots.length; i++) {
-            w.go(1);
-            due.is(text + " cart " + cart + " behind minute " + (i + 1), w.where(cart, 0), spots[i]);
-        }
-    }
-
     private static void oneBacksToItsEnd() {
         String text = "p4;u0 1;d0 2;";
-        ends(text, 9, 1, 2, 2, 0, 1);
-        goes(text, 0, 1, 2, 2, 3, -3, -3);
-        goes(text, 1, 3, 3, 4, 4, 4, 3, 2, 1, -3);
+        due.ends(text, 9, 1, 2, 2, 0, 1);
+        due.goes(text, 0, 1, 2, 2, 3, -3, -3);
+        due.goes(text, 1, 3, 3, 4, 4, 4, 3, 2, 1, -3);
         WhoBacks w = Due.of(text);
         int[] backing = { 0, 1, 1, 1, 0, 0 };
         int[] left = { 0, 0, 1, 0, 0, 0 };
@@ -57,93 +39,93 @@ public final class PromisesOfMinutes {
         due.is("waited by 1", w.where(1, 4), 1);
         due.is("backed by 0", w.where(0, 3), 0);
         due.is("waited by 0", w.where(0, 4), 1);
-        ends("p4;u0 1;d0 0;", 9, 2, 1, 2, 0, 1);
+        due.ends("p4;u0 1;d0 0;", 9, 2, 1, 2, 0, 1);
     }
 
     private static void neitherCanBack() {
-        ends("p4;u0 0;d0 0;", 62, 0, 121, 0, 1, 121);
-        ends("p3;u0 0;d0 0;", 61, 0, 120, 0, 1, 120);
+        due.ends("p4;u0 0;d0 0;", 62, 0, 121, 0, 1, 121);
+        due.ends("p3;u0 0;d0 0;", 61, 0, 120, 0, 1, 120);
         WhoBacks w = Due.of("p3;u0 0;d0 0;");
         w.go(60);
         due.is("59 minutes without a step don't stand", w.state(4), 0);
         w.go(1);
         due.is("60 do", w.state(4), 1);
         // a cart that is still ahead: nothing stands till it came; it takes no step, and all stand at once
-        ends("p3;u0 0;d0 0;u90 0;", 91, 0, 90 + 90 + 1, 0, 1, 180);
+        due.ends("p3;u0 0;d0 0;u90 0;", 91, 0, 90 + 90 + 1, 0, 1, 180);
         // one that comes and takes a step first
-        ends("p3;p3;r1 0;u0 0;d90 0;", 91 + 2 + 60 - 1, 0, 150 + 60, 0, 1, 0);
+        due.ends("p3;p3;r1 0;u0 0;d90 0;", 91 + 2 + 60 - 1, 0, 150 + 60, 0, 1, 0);
     }
 
     private static void slowOnHills() {
-        ends("p3;u0 0l;", 3, 0, 0, 1, 0, 0);
-        ends("p3h1;u0 0l;", 5, 0, 0, 1, 0, 0);
-        ends("p3h1;u0 0;", 3, 0, 0, 1, 0, 0);
-        ends("p3h1;d0 0l;", 3, 0, 0, 1, 0, 0);
-        ends("p3h2;d0 0l;", 5, 0, 0, 1, 0, 0);
-        ends("p3h2;u0 0l;", 3, 0, 0, 1, 0, 0);
-        goes("p3h1;p2;u0 0l;", 0, 1, 1, 2, 2, 3, 3, 4, -3);
+        due.ends("p3;u0 0l;", 3, 0, 0, 1, 0, 0);
+        due.ends("p3h1;u0 0l;", 5, 0, 0, 1, 0, 0);
+        due.ends("p3h1;u0 0;", 3, 0, 0, 1, 0, 0);
+        due.ends("p3h1;d0 0l;", 3, 0, 0, 1, 0, 0);
+        due.ends("p3h2;d0 0l;", 5, 0, 0, 1, 0, 0);
+        due.ends("p3h2;u0 0l;", 3, 0, 0, 1, 0, 0);
+        due.goes("p3h1;p2;u0 0l;", 0, 1, 1, 2, 2, 3, 3, 4, -3);
         WhoBacks w = Due.of("p3h1;p2;u0 0l;");
         w.go(1);
         due.is("left of a slow step", w.where(0, 2), 1);
         w.go(1);
         due.is("nothing left of it", w.where(0, 2), 0);
         // backing takes BACKS alone: the loaded one goes back uphill
-        ends("p4h1;u0 1;d0 1l;", 8, 1, 2, 2, 0, 1);
+        due.ends("p4h1;u0 1;d0 1l;", 8, 1, 2, 2, 0, 1);
     }
 
     private static void placeWithoutRoom() {
-        ends("p2;p2;r1 0;u0 0;", 61, 0, 60, 0, 1, 0);
-        ends("p2;p2;r1 1;u0 0;", 4, 0, 0, 1, 0, 0);
-        ends("p2;p2;p2;r2 0;u0 0;d0 0;", 63, 0, 60 + 62, 0, 1, 0);
+        due.ends("p2;p2;r1 0;u0 0;", 61, 0, 60, 0, 1, 0);
+        due.ends("p2;p2;r1 1;u0 0;", 4, 0, 0, 1, 0, 0);
+        due.ends("p2;p2;p2;r2 0;u0 0;d0 0;", 63, 0, 60 + 62, 0, 1, 0);
     }
 
     private static void toldToBackAtAPlace() {
-        ends("p3;p3;u0 1;d0 1;", 12, 2, 2, 2, 0, 1);
+        due.ends("p3;p3;u0 1;d0 1;", 12, 2, 2, 2, 0, 1);
         String text = "p3;p3;x0 10;u0 1;d0 1w9;";
-        ends(text, 13, 3, 1, 2, 0, 1);
-        goes(text, 0, 1, 2, 3, 2, 1, 0, 0, 1);
-        goes(text, 1, 5, 4, 4, 3, 2, 1, -3);
+        due.ends(text, 13, 3, 1, 2, 0, 1);
+        due.goes(text, 0, 1, 2, 3, 2, 1, 0, 0, 1);
+        due.goes(text, 1, 5, 4, 4, 3, 2, 1, -3);
     }
 
     private static void goingAgainAtAPlace() {
         String text = "p3;p3;x0 10;u0 1;d2 1w9;";
-        ends(text, 16, 4, 2, 2, 0, 2);
-        goes(text, 0, 1, 2, 3, 4, 3, 3, 2, 1, 0, 0, 1);
-        goes(text, 1, -2, -2, 5, 5, 4, 4, 3, 2, 1, -3);
-        ends("p3;p3;x0 10;r1 2;u0 1;d2 1w9;", 9, 1, 1, 2, 0, 1);
+        due.ends(text, 16, 4, 2, 2, 0, 2);
+        due.goes(text, 0, 1, 2, 3, 4, 3, 3, 2, 1, 0, 0, 1);
+        due.goes(text, 1, -2, -2, 5, 5, 4, 4, 3, 2, 1, -3);
+        due.ends("p3;p3;x0 10;r1 2;u0 1;d2 1w9;", 9, 1, 1, 2, 0, 1);
     }
 
     private static void oneBehindBacksToo() {
         String text = "p6;d0 1;u0 1;u0 1;";
-        ends(text, 15, 4, 9, 3, 0, 2);
-        goes(text, 0, 5, 4, 3, 3, 3, 2, 2, 1, -3);
-        goes(text, 1, 1, 2, 2, 2, 1, 0, 0, 0, 1, 2, 3, 4, 5, -3);
-        goes(text, 2, 0, 1, 1, 0, 0, 1, 0, 0, 0, 1);
+        due.ends(text, 15, 4, 9, 3, 0, 2);
+        due.goes(text, 0, 5, 4, 3, 3, 3, 2, 2, 1, -3);
+        due.goes(text, 1, 1, 2, 2, 2, 1, 0, 0, 0, 1, 2, 3, 4, 5, -3);
+        due.goes(text, 2, 0, 1, 1, 0, 0, 1, 0, 0, 0, 1);
     }
 
     private static void hour() {
-        ends("p3;x0 30;u0 0;d0 0;", 13, 0, 10, 2, 0, 0);
-        ends("p2;x0 30;u15 0;", 22, 0, 5, 1, 0, 0);
-        ends("p2;x0 31;u15 0;", 17, 0, 0, 1, 0, 0);
-        ends("p2;x0 39;d0 0;", 60, 0, 60, 0, 1, 0);
-        ends("p2;x0 34;d0 0;", 52, 0, 50, 1, 0, 0);
+        due.ends("p3;x0 30;u0 0;d0 0;", 13, 0, 10, 2, 0, 0);
+        due.ends("p2;x0 30;u15 0;", 22, 0, 5, 1, 0, 0);
+        due.ends("p2;x0 31;u15 0;", 17, 0, 0, 1, 0, 0);
+        due.ends("p2;x0 39;d0 0;", 60, 0, 60, 0, 1, 0);
+        due.ends("p2;x0 34;d0 0;", 52, 0, 50, 1, 0, 0);
         // at a place between no hour is kept
-        ends("p9;p2;x0 30;u0 0;", 11, 0, 0, 1, 0, 0);
+        due.ends("p9;p2;x0 30;u0 0;", 11, 0, 0, 1, 0, 0);
     }
 
     private static void bell() {
-        ends("p3;x0 40;u0 1;d0 1;", 5, 0, 2, 2, 0, 0);
-        ends("p3;x0 40;d0 0;u1 0;d1 0;", 7, 0, 3, 3, 0, 0);
-        ends("p3;x0 41;d0 0;u1 0;d1 0;", 63, 0, 124, 1, 1, 0);
+        due.ends("p3;x0 40;u0 1;d0 1;", 5, 0, 2, 2, 0, 0);
+        due.ends("p3;x0 40;d0 0;u1 0;d1 0;", 7, 0, 3, 3, 0, 0);
+        due.ends("p3;x0 41;d0 0;u1 0;d1 0;", 63, 0, 124, 1, 1, 0);
         // one of the own way is not heard
-        ends("p3;x0 49;u0 0;u1 0;", 4, 0, 0, 2, 0, 0);
+        due.ends("p3;x0 49;u0 0;u1 0;", 4, 0, 0, 2, 0, 0);
     }
 
     private static void best() {
-        ends("p2;p2;x0 50;u0 0;u1 0;", 6, 0, 1, 2, 0, 0);
-        ends("p2;p2;x0 40;u0 0;u1 0;", 5, 0, 0, 2, 0, 0);
-        ends("p2;p2;r1 2;x0 50;u0 0;u1 0;", 5, 0, 0, 2, 0, 0);
-        ends("p3;x0 50;u0 1;d0 1;", 5, 0, 2, 2, 0, 0);
+        due.ends("p2;p2;x0 50;u0 0;u1 0;", 6, 0, 1, 2, 0, 0);
+        due.ends("p2;p2;x0 40;u0 0;u1 0;", 5, 0, 0, 2, 0, 0);
+        due.ends("p2;p2;r1 2;x0 50;u0 0;u1 0;", 5, 0, 0, 2, 0, 0);
+        due.ends("p3;x0 50;u0 1;d0 1;", 5, 0, 2, 2, 0, 0);
     }
 
     private static void goAndAnew() {
