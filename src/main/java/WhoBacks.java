@@ -1175,7 +1175,7 @@ public final class WhoBacks {
             int wanted = b * LINES + ((1 << (a + b)) + (1 << a) - 1);
             if (start >= LINES * BARS || wanted >= LINES * BARS) return NONE;
             reach(start / LINES, start % LINES, 0);
-            for (int i = 0; i < foundCount && moves[wanted] == NONE; i++) {
+            for (int i = 0; i < foundCount && i < LINES * BARS && moves[wanted] == NONE; i++) {
                 tryMoves(found[i] / LINES, found[i] % LINES);
             }
             return moves[wanted];

@@ -206,6 +206,7 @@ public final class EdgesInMind {
         // neither can back: 1120 by RULE, 10 by HOUR 0, 2 by BELL and BEST
         WhoBacks w = Due.of("p3;u0 0;d0 0;");
         due.is("one alone", fitOf(w, 0, 0), 0);
+        due.is("one alone, though a RULE would cost less", fitOf(Due.of("p2;d0 0;"), 0, 3), 0);
         due.is("the second", fitOf(w, 0, 0, 3), 1);
         due.is("the third", fitOf(w, 0, 0, 3, 4), 2);
         due.is("the first of several", fitOf(w, 0, 3, 5, 4, 5, 4), 1);
@@ -403,6 +404,9 @@ public final class EdgesInMind {
         w = Due.of("p4;u0 1;d0 1;d50 1;");
         due.is("they meet", w.met(0, 1), 1);
         due.is("they don't", w.met(0, 2), -4);
+        due.is("another one meets", w.met(2, 1), -4);
+        due.is("another one meets", w.met(1, 2), -4);
+        due.is("another one is met", w.met(2, 0), -4);
         due.about("MET: whichever of both meets.");
         // cart 1 meets cart 0; the other way round cart 0 meets cart 1
         for (String text : new String[] { "p4;u0 1;d0 1;", "p4;d0 1;u0 1;", "p5;u0 1;d0 1;", "p5;d0 1;u0 1;" }) {

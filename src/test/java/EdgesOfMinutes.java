@@ -120,6 +120,15 @@ public final class EdgesOfMinutes {
             Due.rule(down, 1, 4, figure);
             due.is("DOWN, BELL " + figure + ", one at 0", down.enters(0), figure >= 3 ? 0 : 1);
         }
+        // the last of eight pieces, and the first: cart 0 at the place before it, the other at its only spot, or not there yet
+        for (int start = 13; start <= 14; start++) {
+            WhoBacks last = Due.behind("p2;".repeat(8) + "v7 1;x1 40;u0 0;d" + start + " 0;", 14);
+            due.at("before the last piece", last, 14, start == 13 ? 15 : -2);
+            due.is("UP into the last piece", last.enters(0), start == 13 ? 0 : 1);
+            WhoBacks first = Due.behind("p2;".repeat(8) + "v0 1;x1 40;d0 0;u" + start + " 0;", 14);
+            due.at("before the first piece", first, 2, start == 13 ? 1 : -2);
+            due.is("DOWN into the first piece", first.enters(0), start == 13 ? 0 : 1);
+        }
         // one of the own way is not heard, within the piece and at the far place
         WhoBacks w = Due.behind("p2;p3;p2;v1 1;u0 0;u2 0;", 4);
         due.at("cart 0 ahead of cart 1", w, 4, 2);
@@ -233,6 +242,14 @@ public final class EdgesOfMinutes {
         w = Due.behind("p2;p9;p9;x0 20;u0 1;d1 1;d0 1;", 2);
         due.at("carts 0 and 1 at places", w, 2, 20, 18);
         due.is("NEAR: 0 against 0, alike", w.yields(0, 1, 0), 1);
+        // the same with cart 0 at the END, and with one at each place between
+        w = Due.behind("p2;p9;x0 20;d1 1;d0 1;u0 1;", 2);
+        due.at("carts 0 and 2 at places", w, 11, 9, 2);
+        due.is("NEAR: 0 against 0, alike", w.yields(0, 2, 0), 2);
+        w = Due.behind("p2;p9;p2;x0 20;d0 1;u0 1;", 2);
+        due.at("carts 0 and 1 at places between", w, 11, 2);
+        due.is("NEAR: 0 against 0, alike", w.yields(0, 1, 0), 1);
+        due.is("NEAR: 0 against 0, alike, the other way round", w.yields(1, 0, 0), 1);
         w = Due.behind("p9;x0 20;u1 1;d0 1;", 4);
         due.at("behind 4", w, 3, 5);
         due.is("NEAR: 3 against 4", w.yields(1, 0, 0), 0);
@@ -294,6 +311,15 @@ public final class EdgesOfMinutes {
         w = Due.behind("p2h1;p9h1;x0 70;u0 1;d1 1;", 2);
         due.is("HILLED: the first at a place, the other's way falls", w.yields(0, 1, 0), 0);
         due.is("HILLED: the first within, its way falls", w.yields(1, 0, 0), 1);
+        // the first at place 0 and at the END, though all hills fall for the other: NEAR tells
+        w = Due.behind("p9h1;x0 70;u1 1;u0 1;d0 1;", 2);
+        due.at("cart 0 at place 0", w, 0, 2, 7);
+        due.is("HILLED: at place 0, 0 against 2 spots", w.yields(0, 2, 0), 0);
+        due.is("HILLED: within, its way falls", w.yields(2, 0, 0), 2);
+        w = Due.behind("p9h2;x0 70;d1 1;d0 1;u0 1;", 2);
+        due.at("cart 0 at the END", w, 9, 7, 2);
+        due.is("HILLED: at the END, 0 against 2 spots", w.yields(0, 2, 0), 0);
+        due.is("HILLED: within, its way falls", w.yields(2, 0, 0), 2);
     }
 
     private static void backIfItCan() {
@@ -670,6 +696,13 @@ public final class EdgesOfMinutes {
         java.util.Arrays.fill(same, -3);
         Due.ints(w, 1, same);
         due.is("all are done", w.judge(0, 1), -4);
+        // it stands at minute 60, though the hour would come at 100
+        w = Due.of("p2;x0 39;d0 0;");
+        java.util.Arrays.fill(same, 2);
+        Due.ints(w, 1, same);
+        due.is("it stands on the way", w.judge(0, 1), -4);
+        w.go(60);
+        due.is("it stands, and no hour comes", w.judge(0, 1), -4);
         due.about("ON the ROAD are those at PLACES, too.");
         w = Due.behind("p2;p2;x0 30;u0 0;u10 0;d0 0;", 2);
         due.at("at place 1, ahead, at the END", w, 2, -2, 4);
@@ -712,6 +745,14 @@ public final class EdgesOfMinutes {
         due.is("it stands: anew()", w.anew(), 2);
         due.is("and no more", w.state(4), 0);
         due.is("60 minutes more", w.go(200), 61);
+        w = Due.behind("p2;x0 39;d0 0;", 30);
+        due.is("30 minutes without a step: anew()", w.anew(), 1);
+        due.is("60 minutes anew", w.go(200), 60);
+        due.is("it stands: anew()", w.anew(), 1);
+        due.is("60 minutes anew", w.go(200), 60);
+        w.row(1, 0, 0);
+        due.is("60 minutes in a run", w.run(1, 3), 60);
+        due.is("60 minutes in a run again", w.run(1, 2), 60);
         // the spots are free again
         w = Due.behind("p3;p3;r1 2;u0 0;u0 0;d9 0;", 5);
         w.anew();
@@ -786,6 +827,13 @@ public final class EdgesOfMinutes {
         due.is("-1 goes ahead of -3: village", w.yields(0, 2, -1), -1);
         w.backs(1, 0);
         due.is("neither can", w.yields(1, 2, 0), -4);
+        // ON the ROAD at both ends
+        w = Due.behind("p5;x0 30;u10 1;d10 1;u0 1;d0 1;", 11);
+        due.at("at 0, within, done, at the END", w, 0, 4, -3, 5);
+        due.is("the first at 0", w.yields(0, 1, 0), 1);
+        due.is("the other at 0", w.yields(1, 0, 0), 1);
+        due.is("one at 0, one at the END", w.yields(0, 3, 0), 3);
+        due.is("one at the END, one at 0", w.yields(3, 0, 0), 3);
         w = Due.behind("p2;u0 1;d1 1;d9 1;", 2);
         due.at("cart 0 is done", w, -3, 1, -2);
         due.is("the first done", w.yields(0, 1, 0), -3);

@@ -56,6 +56,9 @@ public final class EdgesOfTheRest {
         due.is("two across to room for one", w.rows(2, 0, 3, 2, 1), -4);
         due.is("two across to room for two", w.rows(2, 0, 0, 2, 2), 2);
         due.is("three across to room for two", w.rows(3, 0, 3, 3, 2), -4);
+        due.is("two the other way to room for one", w.rows(0, 2, 3, 1, 2), -4);
+        due.is("two the other way to room for two", w.rows(0, 2, 0, 2, 2), 2);
+        due.is("three the other way to room for two", w.rows(0, 3, 3, 2, 3), -4);
         due.is("one each, sides of one: by way of aside", w.rows(1, 1, 1, 1, 1), 3);
         // one that is where it wants to be moves again: only so one aside is enough for two each
         due.is("two each, one aside", w.rows(2, 2, 1, 3, 3), 10);
