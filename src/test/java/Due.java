@@ -89,8 +89,12 @@ final class Due {
         return w;
     }
 
-    static void ints(WhoBacks w, int d, int... values) {
-        w.row(d, 2, values.length);
+    static void ints(WhoBacks w, int d, int... values) { fill(w, d, 2, values); }
+
+    static void bytes(WhoBacks w, int d, int... values) { fill(w, d, 0, values); }
+
+    private static void fill(WhoBacks w, int d, int sort, int[] values) {
+        w.row(d, sort, values.length);
         for (int i = 0; i < values.length; i++) w.put(d, i, values[i]);
     }
 

@@ -17,12 +17,14 @@ import java.util.regex.Pattern;
 
 /** What can be seen of LANGUAGE.md's rules in the source and in the class: a help, not a proof. */
 public final class LanguageRules {
-    private static final String[] FACE = ("road piece room cart backs village rule go anew where state enters yields judge run ever best more "
-        + "fit shortest hours stubborn heard days met rows aside image restore count keep row put element copy words toss").split(" ");
+    /** The document's face: each call as it stands there, without its parameters' names, and the names alone. */
+    private static final Set<String> FACE = new TreeSet<>();
+    private static final Set<String> NAMES = new TreeSet<>();
     private static int wrong;
 
     public static void main(String[] args) throws IOException {
         String source = stripped(Files.readString(Path.of(args.length > 0 ? args[0] : "src/main/java/WhoBacks.java")));
+        readFace(Files.readString(Path.of("../shared/DOC.md")));
         face();
         classes();
         words(source);
@@ -41,15 +43,34 @@ public final class LanguageRules {
         return s.replaceAll("\"[^\"\n]*\"", "\"\"").replaceAll("'[^'\n]'", "0");
     }
 
+    private static void readFace(String document) {
+        Matcher m = Pattern.compile("(?m)^    public (\\w+) (\\w+)\\(([^)]*)\\)( throws [^;]*)?;$").matcher(document);
+        while (m.find()) {
+            String types = m.group(3).replaceAll(" \\w+(?=,|$)", "");
+            FACE.add(m.group(1) + " " + m.group(2) + "(" + types + ")" + (m.group(4) == null ? "" : m.group(4)));
+            NAMES.add(m.group(2));
+        }
+        if (FACE.size() != 38 - 1 || NAMES.size() != FACE.size()) fault(1, "the document's face has a call for each promise but the first: " + FACE);
+    }
+
+    private static String asTold(Method m) {
+        List<String> types = new ArrayList<>();
+        for (Class<?> type : m.getParameterTypes()) types.add(type.getSimpleName());
+        List<String> thrown = new ArrayList<>();
+        for (Class<?> type : m.getExceptionTypes()) thrown.add(type.getSimpleName());
+        String call = m.getReturnType().getSimpleName() + " " + m.getName() + "(" + String.join(", ", types) + ")";
+        return call + (thrown.isEmpty() ? "" : " throws " + String.join(", ", thrown)) + (Modifier.isStatic(m.getModifiers()) ? " static" : "");
+    }
+
     private static void face() {
         Class<?> c = WhoBacks.class;
         if (!Modifier.isFinal(c.getModifiers()) || !Modifier.isPublic(c.getModifiers())) fault(1, "the class is public and final");
         Set<String> open = new TreeSet<>();
         for (Method m : c.getDeclaredMethods()) {
-            if (Modifier.isPublic(m.getModifiers())) open.add(m.getName());
+            if (Modifier.isPublic(m.getModifiers())) open.add(asTold(m));
             else if (!Modifier.isPrivate(m.getModifiers())) fault(1, "visible: " + m);
         }
-        if (!open.equals(new TreeSet<>(List.of(FACE)))) fault(1, "the face is " + open);
+        if (!open.equals(FACE)) fault(1, "the face is " + open);
         for (Constructor<?> k : c.getDeclaredConstructors()) {
             if (!Modifier.isPublic(k.getModifiers()) || k.getParameterCount() != 0) fault(1, "constructor " + k);
         }
@@ -62,7 +83,7 @@ public final class LanguageRules {
         for (Class<?> c : all) {
             if (!Modifier.isStatic(c.getModifiers())) fault(1, "not static: " + c);
             for (Method m : c.getDeclaredMethods()) {
-                if (Set.of(FACE).contains(m.getName())) fault(1, "bears the name of a public one: " + m);
+                if (NAMES.contains(m.getName())) fault(1, "bears the name of a public one: " + m);
             }
         }
         all.add(WhoBacks.class);
@@ -76,7 +97,7 @@ public final class LanguageRules {
             if (fields > 20) fault(11, fields + " fields: " + c);
             for (Method m : c.getDeclaredMethods()) {
                 if (m.getParameterCount() > 7) fault(11, "parameters: " + m);
-                if (Modifier.isPrivate(m.getModifiers()) && Set.of(FACE).contains(m.getName())) fault(1, "private: " + m);
+                if (Modifier.isPrivate(m.getModifiers()) && NAMES.contains(m.getName())) fault(1, "private: " + m);
             }
         }
     }
